@@ -240,7 +240,7 @@ public final class ChainVersions {
     }
 
     private Node livingNode(int node) {
-        Node made = madeNode(node);
+        Node made = node >= 0 && node < NODE_LIMIT ? nodes[node] : null;
         return made != null && made.living ? made : null;
     }
 
@@ -521,7 +521,8 @@ public final class ChainVersions {
         int neighbour(int node, int step) {
             for (int i = 0; i < members.length; i++) {
                 if (members[i] == node) {
-                    return memberAt(i + step);
+                    int place = i + step;
+                    return place >= 0 && place < members.length ? members[place] : NONE;
                 }
             }
             return NONE;
@@ -627,7 +628,12 @@ public final class ChainVersions {
         }
 
         boolean isClean(int key) {
-            return versionAt(key, 1) == cleanVersion(key);
+            for (int n = settled + 1; n <= length; n++) {
+                if (isOfKey(n, key)) {
+                    return false;
+                }
+            }
+            return true;
         }
 
         boolean hasVersion(int key, int n) {
@@ -635,7 +641,7 @@ public final class ChainVersions {
         }
     }
 
-    /** A client with its latest request. */
+    /** A client; of its requests only the latest matters. */
     private static final class Client {
         int state = NO_REQUEST;
         int writes;

@@ -23,7 +23,7 @@ final class Chains {
         }
     }
 
-    /** Ticks until a node that stopped just now is out of the newest configuration. */
+    /** Lets the master's clock go on by count. */
     static void ticks(ChainVersions x, int count) {
         for (int i = 0; i < count; i++) {
             x.tick();

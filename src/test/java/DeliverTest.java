@@ -90,6 +90,21 @@ public final class DeliverTest {
         CHECK.due("its value", x.value(2), 5);
     }
 
+    /** The same, but the answer names a settled update that a later one has hidden meanwhile. */
+    private static void answerOfAHiddenVersion() {
+        ChainVersions x = new ChainVersions(3);
+        x.put(0, 1, 5);
+        Chains.quiet(x);
+        x.put(0, 1, 6);
+        CHECK.due("get", x.get(2, 0, 1), ChainVersions.ASKED);
+        CHECK.due("query", x.deliver(0, 2), ChainVersions.QUERY);
+        Chains.along(x, 0, 1, 2, 1, 0);
+        CHECK.due("settled meanwhile", x.settled(0), 2);
+        CHECK.due("answer", x.deliver(2, 0), ChainVersions.ANSWER);
+        CHECK.due("clean version", x.number(2), 2);
+        CHECK.due("its value", x.value(2), 6);
+    }
+
     /** The version told is the key's, not any update with that number. */
     private static void answerOfAnotherKey() {
         ChainVersions x = new ChainVersions(2);
@@ -228,6 +243,7 @@ public final class DeliverTest {
         ackGoesUpOnceEach();
         answerOfAnOpenVersion();
         answerOfAnOldVersion();
+        answerOfAHiddenVersion();
         answerOfAnotherKey();
         notReadyTakesCopiesAlone();
         notReadyIsBusyWithAnUpdate();

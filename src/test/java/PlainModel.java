@@ -320,11 +320,11 @@ final class PlainModel {
             node.held = new ArrayList<>(m.held);
             node.settled = m.settled;
             node.ready = true;
-            headlong(to);
+            tellNeighbours(to);
         }
     }
 
-    private void headlong(int i) {
+    private void tellNeighbours(int i) {
         if (isTail(i)) {
             settleAll(i);
         } else {
@@ -386,7 +386,7 @@ final class PlainModel {
             links.get(from).get(i).removeIf(m -> m.epoch < node.epoch);
         }
         if (node.ready) {
-            headlong(i);
+            tellNeighbours(i);
             for (int c = 0; c < 3; c++) {
                 Request r = latest[c];
                 if (r != null && !r.write && !r.done && r.at == i) {
