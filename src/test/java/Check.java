@@ -1,3 +1,5 @@
+import java.util.List;
+
 /** Counts answers that are not as due, and ends a test with exit code 1 if there was one. */
 final class Check {
     private final String name;
@@ -18,6 +20,21 @@ final class Check {
 
     void due(String call, boolean got, boolean want) {
         due(call, got ? 1 : 0, want ? 1 : 0);
+    }
+
+    /** Two lists of what was asked and answered are the same; the first difference is told. */
+    void same(String what, List<String> got, List<String> want) {
+        checks++;
+        if (got.equals(want)) {
+            return;
+        }
+        wrong++;
+        int i = 0;
+        while (i < got.size() && i < want.size() && got.get(i).equals(want.get(i))) {
+            i++;
+        }
+        System.out.println(name + ": " + what + ": " + (i < got.size() ? got.get(i) : "nothing") + ", due is "
+            + (i < want.size() ? want.get(i) : "nothing"));
     }
 
     void end() {

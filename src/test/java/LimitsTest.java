@@ -4,7 +4,8 @@ import java.util.Random;
 /** No call throws, whatever the arguments and however many calls; a run makes little. */
 public final class LimitsTest {
     private static final int[] EDGES = {Integer.MIN_VALUE, -2, -1, 0, 1, 2, 3, 4, 5, 6, 7, 100, Integer.MAX_VALUE};
-    private static final long BYTES_A_RUN = 1_000_000L;
+    /** All that a run may make: 7.3 million fields and elements, each of four bytes at least. */
+    private static final long BYTES_A_RUN = 4L * 7_300_000L;
 
     private static void call(ChainVersions x, Random random) {
         int a = EDGES[random.nextInt(EDGES.length)];
@@ -42,10 +43,8 @@ public final class LimitsTest {
         }
     }
 
-    /** Bytes that one busy run of 512 calls makes, as the virtual machine counts them. */
-    private static long bytesOfARun() {
-        com.sun.management.ThreadMXBean threads = (com.sun.management.ThreadMXBean) ManagementFactory.getThreadMXBean();
-        long before = threads.getCurrentThreadAllocatedBytes();
+    /** Writes and reads all the time: 512 calls. */
+    private static void busyRun() {
         ChainVersions x = new ChainVersions(3);
         for (int i = 0; i < 128; i++) {
             x.put(i % 3, i % 4, i);
@@ -53,15 +52,41 @@ public final class LimitsTest {
             x.deliver(1, 2);
             x.get(i % 2, 0, i % 4);
         }
-        return threads.getCurrentThreadAllocatedBytes() - before;
+    }
+
+    /** A hundred updates that go to every new node as a copy. */
+    private static void copyingRun() {
+        ChainVersions x = new ChainVersions(1);
+        for (int i = 0; i < 100; i++) {
+            x.put(0, i % 4, i);
+        }
+        for (int last = 1; last < 6; last++) {
+            x.join();
+            for (int node = 0; node < last; node++) {
+                x.adopt(node);
+                x.deliver(node, node + 1);
+            }
+        }
+        for (int i = 0; i < 300; i++) {
+            x.version(i % 6, i % 4, 9);
+        }
+    }
+
+    private static long bytesMade() {
+        return ((com.sun.management.ThreadMXBean) ManagementFactory.getThreadMXBean()).getCurrentThreadAllocatedBytes();
     }
 
     public static void main(String[] args) {
         Check check = new Check("limits");
         anyArguments();
-        bytesOfARun();
-        long bytes = bytesOfARun();
-        check.due("a run makes " + bytes + " bytes, too many", bytes < BYTES_A_RUN, true);
+        long before = bytesMade();
+        busyRun();
+        long between = bytesMade();
+        copyingRun();
+        long after = bytesMade();
+        check.due("a busy run makes " + (between - before) + " bytes, too many", between - before < BYTES_A_RUN, true);
+        check.due("a run of copies makes " + (after - between) + " bytes, too many", after - between < BYTES_A_RUN,
+            true);
         check.end();
     }
 }

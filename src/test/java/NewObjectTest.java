@@ -3,7 +3,7 @@ public final class NewObjectTest {
     private static final Check CHECK = new Check("new object");
 
     private static void fresh(int nodes, int want) {
-        ChainVersions x = new ChainVersions(nodes);
+        Counted x = new Counted(nodes);
         String made = "ChainVersions(" + nodes + ") ";
         for (int node = -1; node < 7; node++) {
             boolean there = node >= 0 && node < want;
@@ -40,8 +40,8 @@ public final class NewObjectTest {
     }
 
     private static void objectsAreApart() {
-        ChainVersions x = new ChainVersions(1);
-        ChainVersions y = new ChainVersions(1);
+        Counted x = new Counted(1);
+        Counted y = new Counted(1);
         x.put(0, 0, 5);
         x.join();
         CHECK.due("other object: length", y.length(0), 0);
