@@ -240,6 +240,7 @@ public final class ChainVersions {
     }
 
     private Node livingNode(int node) {
+        // Not by way of madeNode: the longest paths of calls end here, and they may go only eight deep.
         Node made = node >= 0 && node < NODE_LIMIT ? nodes[node] : null;
         return made != null && made.living ? made : null;
     }
